@@ -1,0 +1,45 @@
+/** Counts and prints the answers that are not the ones that are due. */
+final class Check {
+  /** A call that may throw. */
+  interface Call {
+    Object answer();
+  }
+
+  private final String test;
+  private int right = 0;
+  private int wrong = 0;
+
+  Check(String test) {
+    this.test = test;
+  }
+
+  void due(String what, Object want, Object got) {
+    if (want == null ? got == null : want.equals(got)) {
+      right++;
+    } else {
+      wrong++;
+      System.out.println(test + ": " + what + ": answered " + got + ", due is " + want);
+    }
+  }
+
+  /** The exception must be of the very class: the machine's own ones are classes below it. */
+  void dueThrow(String what, Class<?> want, Call call) {
+    due(what, "throws " + want.getName(), outcome(call));
+  }
+
+  static Object outcome(Call call) {
+    try {
+      return call.answer();
+    } catch (RuntimeException thrown) {
+      return "throws " + thrown.getClass().getName();
+    }
+  }
+
+  /** Ends the test's program: a test that checked nothing has failed, too. */
+  void end() {
+    System.out.println(test + ": " + right + " answers as due, " + wrong + " not");
+    if (wrong != 0 || right == 0) {
+      System.exit(1);
+    }
+  }
+}

@@ -1,0 +1,107 @@
+import java.lang.reflect.Constructor;
+import java.lang.reflect.Field;
+import java.lang.reflect.Method;
+import java.lang.reflect.Modifier;
+import java.util.ArrayList;
+import java.util.Arrays;
+import java.util.Collections;
+import java.util.HashSet;
+import java.util.List;
+import java.util.Set;
+
+/** The face of the document, no more and no less, and the shape of the classes inside. */
+public final class FaceTest {
+  private static final Check check = new Check("FaceTest");
+
+  private static final String[] FACE = {
+    "public int addBeamline(int,int) throws IllegalArgumentException,IllegalStateException",
+    "public int setRate(int,int) throws IndexOutOfBoundsException,IllegalArgumentException",
+    "public int propose(int,int,int,int,int) throws IndexOutOfBoundsException,"
+        + "IllegalArgumentException,IllegalStateException",
+    "public int meet(int) throws IndexOutOfBoundsException,IllegalStateException",
+    "public int reserve(int) throws IndexOutOfBoundsException,IllegalStateException",
+    "public int train(int) throws IndexOutOfBoundsException,IllegalStateException",
+    "public boolean setThere(int,boolean) throws IndexOutOfBoundsException",
+    "public int bring(int,int) throws IndexOutOfBoundsException,IllegalArgumentException",
+    "public char put(int,char) throws IndexOutOfBoundsException,IllegalArgumentException,"
+        + "NoSuchElementException,UnsupportedOperationException",
+    "public int life(int) throws IndexOutOfBoundsException,NoSuchElementException",
+    "public int on(int) throws IndexOutOfBoundsException,NoSuchElementException",
+    "public char reason(int) throws IndexOutOfBoundsException",
+    "public boolean fail(int) throws IndexOutOfBoundsException,IllegalStateException",
+    "public int pass(int) throws IllegalArgumentException,IllegalStateException",
+    "public int time()",
+    "public int used(int) throws IndexOutOfBoundsException",
+    "public int left(int) throws IndexOutOfBoundsException",
+    "public int leftAnew(int) throws IndexOutOfBoundsException",
+    "public int nextAt(int) throws IndexOutOfBoundsException,NoSuchElementException",
+    "public int count(int,char) throws IndexOutOfBoundsException,IllegalArgumentException",
+    "public int mostOwed() throws NoSuchElementException",
+    "public float doneShare() throws ArithmeticException",
+    "public double meanScore() throws ArithmeticException",
+  };
+
+  public static void main(String[] args) {
+    theClass();
+    theMethods();
+    theFields();
+    theClassesInside();
+    check.end();
+  }
+
+  private static void theClass() {
+    int modifiers = BeamOffice.class.getModifiers();
+    check.due("the class", "public final", Modifier.toString(modifiers));
+    check.due("its package", "", BeamOffice.class.getPackageName());
+    check.due("what it extends", Object.class, BeamOffice.class.getSuperclass());
+    check.due("what it implements", 0, BeamOffice.class.getInterfaces().length);
+    Constructor<?>[] made = BeamOffice.class.getDeclaredConstructors();
+    check.due("the constructors", 1, made.length);
+    check.due("the constructor", "public BeamOffice()", made[0].toString());
+  }
+
+  private static void theMethods() {
+    List<String> got = new ArrayList<>();
+    Set<String> publicNames = new HashSet<>();
+    Set<String> privateNames = new HashSet<>();
+    for (Method method : BeamOffice.class.getDeclaredMethods()) {
+      if (Modifier.isPrivate(method.getModifiers())) {
+        privateNames.add(method.getName());
+      } else {
+        publicNames.add(method.getName());
+        got.add(plain(method));
+      }
+    }
+    List<String> want = new ArrayList<>(Arrays.asList(FACE));
+    Collections.sort(want);
+    Collections.sort(got);
+    check.due("the methods that are not private", want, got);
+    privateNames.retainAll(publicNames);
+    check.due("private ones with a public name", Set.of(), privateNames);
+  }
+
+  private static String plain(Method method) {
+    return method.toString().replace("BeamOffice.", "").replace("java.lang.", "")
+        .replace("java.util.", "");
+  }
+
+  private static void theFields() {
+    for (Field field : BeamOffice.class.getDeclaredFields()) {
+      int modifiers = field.getModifiers();
+      check.due(field.getName() + " is private", true, Modifier.isPrivate(modifiers));
+      if (Modifier.isStatic(modifiers)) {
+        check.due(field.getName() + " is final", true, Modifier.isFinal(modifiers));
+        check.due(field.getName() + " is a number", true, field.getType().isPrimitive());
+      }
+    }
+  }
+
+  private static void theClassesInside() {
+    for (Class<?> inside : BeamOffice.class.getDeclaredClasses()) {
+      String shape = Modifier.toString(inside.getModifiers());
+      check.due(inside.getName(), "private static final", shape);
+      check.due(inside.getName() + " has few fields", true,
+          inside.getDeclaredFields().length <= 20);
+    }
+  }
+}
