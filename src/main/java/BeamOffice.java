@@ -5,7 +5,8 @@ import java.util.NoSuchElementException;
  * The user office of an accelerator's hall: proposals that are ranked by a panel, shifts that run
  * one after the other, shutters that open for trained people who are there with their samples,
  * samples that age where it is not cold, data that has to be moved away, and lost shifts that are
- * made good.
+ * made good. What each call promises stands in the document, under the call's name; the checks of
+ * a call stand in the document's order, since the exception that is documented first is thrown.
  */
 public final class BeamOffice {
   private static final int MOST_BEAMLINES = 2;
@@ -51,13 +52,11 @@ public final class BeamOffice {
   private final boolean[] there = new boolean[USERS];
   private int time = 0;
 
-  /** Creates an office without beamlines and proposals, at the time 0. */
   public BeamOffice() {
   }
 
   // ---- beamlines and proposals
 
-  /** Adds a beamline with a run of shifts and a disk with room; returns its number. */
   public int addBeamline(int shifts, int room)
       throws IllegalArgumentException, IllegalStateException {
     if (!isWithin(shifts, LEAST_RUN, MOST_RUN)) {
@@ -73,7 +72,6 @@ public final class BeamOffice {
     return beamlines.size() - 1;
   }
 
-  /** Sets the rate of a beamline; returns the rate before. */
   public int setRate(int beamline, int units)
       throws IndexOutOfBoundsException, IllegalArgumentException {
     Beamline line = beamlineNumbered(beamline);
@@ -85,7 +83,6 @@ public final class BeamOffice {
     return before;
   }
 
-  /** Makes a proposal for a beamline; returns its number. */
   public int propose(int beamline, int user, int score, int wanted, int data)
       throws IndexOutOfBoundsException, IllegalArgumentException, IllegalStateException {
     Beamline line = beamlineNumbered(beamline);
@@ -112,7 +109,6 @@ public final class BeamOffice {
     return number;
   }
 
-  /** Lets the panel meet for a beamline; returns the number of proposals in its queue. */
   public int meet(int beamline) throws IndexOutOfBoundsException, IllegalStateException {
     Beamline line = beamlineNumbered(beamline);
     if (line.met) {
@@ -125,7 +121,6 @@ public final class BeamOffice {
     return line.queue.size();
   }
 
-  /** Returns the reserve of a beamline. */
   public int reserve(int beamline) throws IndexOutOfBoundsException, IllegalStateException {
     Beamline line = beamlineNumbered(beamline);
     if (!line.met) {
@@ -136,7 +131,6 @@ public final class BeamOffice {
 
   // ---- people and samples
 
-  /** Trains a user; returns the number of users who are trained. */
   public int train(int user) throws IndexOutOfBoundsException, IllegalStateException {
     if (user < 0 || user >= trained.length) {
       throw new IndexOutOfBoundsException("no such user");
@@ -154,7 +148,6 @@ public final class BeamOffice {
     return sum;
   }
 
-  /** Lets a user come to the hall, or leave it; returns whether the user was there before. */
   public boolean setThere(int user, boolean isThere) throws IndexOutOfBoundsException {
     if (user < 0 || user >= there.length) {
       throw new IndexOutOfBoundsException("no such user");
@@ -164,7 +157,6 @@ public final class BeamOffice {
     return before;
   }
 
-  /** Brings a sample into the room, in place of the one before; returns the life before, or -1. */
   public int bring(int proposal, int life)
       throws IndexOutOfBoundsException, IllegalArgumentException {
     Proposal owner = proposalNumbered(proposal);
@@ -177,7 +169,6 @@ public final class BeamOffice {
     return before;
   }
 
-  /** Puts a sample into the room, into the cold or to the beamline; returns the place before. */
   public char put(int proposal, char place)
       throws IndexOutOfBoundsException, IllegalArgumentException, NoSuchElementException,
           UnsupportedOperationException {
@@ -196,7 +187,6 @@ public final class BeamOffice {
     return before;
   }
 
-  /** Returns the life of a sample, 0 if it is spoilt. */
   public int life(int proposal) throws IndexOutOfBoundsException, NoSuchElementException {
     Proposal owner = proposalNumbered(proposal);
     if (!owner.hasSample()) {
@@ -207,7 +197,6 @@ public final class BeamOffice {
 
   // ---- shutters and shifts
 
-  /** Returns the proposal that is on at a beamline. */
   public int on(int beamline) throws IndexOutOfBoundsException, NoSuchElementException {
     Proposal current = beamlineNumbered(beamline).current();
     if (current == null) {
@@ -216,12 +205,10 @@ public final class BeamOffice {
     return current.number;
   }
 
-  /** Returns why the shutter of a beamline is closed, or '-' if it is open. */
   public char reason(int beamline) throws IndexOutOfBoundsException {
     return reasonAt(beamlineNumbered(beamline));
   }
 
-  /** Reports a fault at a beamline, for this shift; returns whether a proposal is on. */
   public boolean fail(int beamline) throws IndexOutOfBoundsException, IllegalStateException {
     Beamline line = beamlineNumbered(beamline);
     if (line.fault) {
@@ -231,12 +218,11 @@ public final class BeamOffice {
     return line.current() != null;
   }
 
-  /** Lets shifts pass; returns the number of shifts that were done. */
   public int pass(int shifts) throws IllegalArgumentException, IllegalStateException {
     if (!isWithin(shifts, 1, MOST_AT_ONCE)) {
       throw new IllegalArgumentException("the shifts are out of range");
     }
-    if (time + shifts > MOST_SHIFTS) {
+    if (shifts > MOST_SHIFTS - time) {
       throw new IllegalStateException("too many shifts would have passed");
     }
     int done = 0;
@@ -246,31 +232,26 @@ public final class BeamOffice {
     return done;
   }
 
-  /** Returns the time: the number of shifts that have passed. */
   public int time() {
     return time;
   }
 
-  /** Returns how much of a disk is used. */
   public int used(int beamline) throws IndexOutOfBoundsException {
     return beamlineNumbered(beamline).used;
   }
 
   // ---- the calendar
 
-  /** Returns how many shifts a proposal has left, as it is kept, 0 if it is in no queue. */
   public int left(int proposal) throws IndexOutOfBoundsException {
     return leftKept(proposalNumbered(proposal));
   }
 
-  /** Returns the same number, found from the panel on, shift by shift. */
   public int leftAnew(int proposal) throws IndexOutOfBoundsException {
     Proposal asked = proposalNumbered(proposal);
     asked.line.replay();
     return asked.line.anew.leftAt(asked.queuePlace);
   }
 
-  /** Returns when the next shift of a proposal begins, if no more shifts are lost. */
   public int nextAt(int proposal) throws IndexOutOfBoundsException, NoSuchElementException {
     Proposal asked = proposalNumbered(proposal);
     if (leftKept(asked) == 0) {
@@ -279,7 +260,6 @@ public final class BeamOffice {
     return time + asked.line.kept.leftAheadOf(asked.queuePlace);
   }
 
-  /** Returns how many shifts of a proposal were done, missed, lost or are owed to it. */
   public int count(int proposal, char kind)
       throws IndexOutOfBoundsException, IllegalArgumentException {
     Proposal asked = proposalNumbered(proposal);
@@ -298,7 +278,6 @@ public final class BeamOffice {
     throw new IllegalArgumentException("no such kind");
   }
 
-  /** Returns the user to whom most shifts are owed; of several, the lowest one. */
   public int mostOwed() throws NoSuchElementException {
     int most = 0;
     int found = -1;
@@ -315,7 +294,6 @@ public final class BeamOffice {
     return found;
   }
 
-  /** Returns the share of the shifts that were done, of all that were done, missed or lost. */
   public float doneShare() throws ArithmeticException {
     int done = 0;
     int all = 0;
@@ -330,7 +308,6 @@ public final class BeamOffice {
     return (float) done / (float) all;
   }
 
-  /** Returns the mean score of all proposals in queues. */
   public double meanScore() throws ArithmeticException {
     int sum = 0;
     int number = 0;
@@ -403,7 +380,7 @@ public final class BeamOffice {
     return user >= 0 && user < users.length && users[user];
   }
 
-  /** The reasons are looked at in the order of the document: the first one that applies counts. */
+  // in the order of the document, since the first reason that applies counts
   private char reasonAt(Beamline line) {
     Proposal current = line.current();
     if (current == null) {
@@ -440,7 +417,6 @@ public final class BeamOffice {
     return MISSED;
   }
 
-  /** Lets one shift pass at all beamlines; returns at how many of them it was done. */
   private int passOne() {
     int done = 0;
     for (int i = 0; i < beamlines.size(); i++) {
@@ -501,7 +477,6 @@ public final class BeamOffice {
       }
     }
 
-    /** Counts a shift that passed while the proposal was on. */
     void countShift(char kind) {
       if (kind == DONE) {
         done++;
@@ -519,7 +494,7 @@ public final class BeamOffice {
     final int room;
     final ArrayList<Proposal> queue = new ArrayList<>();
     final Calendar kept = new Calendar();
-    // made once and filled again for each replay, so that a look takes no new room
+    // made once and filled again for each replay, since a look may take no new room
     final Calendar anew = new Calendar();
     final char[] kinds = new char[MOST_SHIFTS];
     int passed = 0;
@@ -534,7 +509,7 @@ public final class BeamOffice {
       this.kept.begin(shifts);
     }
 
-    /** Appends a proposal to the queue if as many shifts as it wants are left of the run. */
+    // the queue and the calendar grow together: a proposal's place is the same in both
     void allot(Proposal next) {
       int place = kept.allot(next.wanted);
       if (place != NO_PLACE) {
@@ -550,7 +525,6 @@ public final class BeamOffice {
       return queue.get(place);
     }
 
-    /** The proposal that is on, or null. */
     Proposal current() {
       return proposalAt(kept.firstPlace());
     }
@@ -572,7 +546,7 @@ public final class BeamOffice {
       fault = false;
     }
 
-    /** Shifts before the panel met took nothing from anybody, and are not noted. */
+    // a replay begins at the panel: what passed before it took nothing from anybody
     void note(char kind) {
       if (met && passed < kinds.length) {
         kinds[passed] = kind;
@@ -591,7 +565,10 @@ public final class BeamOffice {
     }
   }
 
-  /** The shifts of a run: those that each place of the queue has left, and the reserve. */
+  /**
+   * The shifts of a run: those that each place of the queue has left, and the reserve. A beamline
+   * keeps one and replays its shifts on another, so what a shift takes is told only here.
+   */
   private static final class Calendar {
     final int[] left = new int[MOST_PROPOSALS];
     int places = 0;
@@ -602,7 +579,7 @@ public final class BeamOffice {
       reserve = shifts;
     }
 
-    /** Allots all wanted shifts to a new last place, or none; returns that place or NO_PLACE. */
+    /** Returns the new last place, or NO_PLACE if too few shifts are left to be allotted. */
     int allot(int wanted) {
       if (wanted > reserve || places >= left.length) {
         return NO_PLACE;
@@ -648,12 +625,12 @@ public final class BeamOffice {
     }
 
     void takeFrom(int place) {
-      if (leftAt(place) > 0) {
+      if (place >= 0 && place < left.length && left[place] > 0) {
         left[place]--;
       }
     }
 
-    /** Does what a shift of a kind does; returns the place that is owed a shift, or NO_PLACE. */
+    /** Returns the place that is owed the shift, or NO_PLACE. */
     int follow(char kind) {
       if (kind == DONE || kind == MISSED) {
         takeFrom(firstPlace());
@@ -664,7 +641,6 @@ public final class BeamOffice {
       return NO_PLACE;
     }
 
-    /** Makes a lost shift good from the reserve, or else at the cost of the last place. */
     int lose() {
       if (reserve > 0) {
         reserve--;

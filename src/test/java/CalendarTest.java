@@ -18,6 +18,7 @@ public final class CalendarTest {
     promise21Count();
     promise21WrongInputs();
     promise22MostOwed();
+    promise22LowestUser();
     promise22OverAllProposals();
     promise23DoneShare();
     promise24MeanScore();
@@ -188,6 +189,21 @@ public final class CalendarTest {
     check.due("22: two against two", 7, x.mostOwed());
   }
 
+  private static void promise22LowestUser() {
+    BeamOffice x = new BeamOffice();
+    x.addBeamline(3, 100);
+    x.propose(0, 0, 50, 3, 0);
+    x.meet(0);
+    lose(x, 0, 1);
+    check.due("22: the user 0", 0, x.mostOwed());
+    BeamOffice y = new BeamOffice();
+    y.addBeamline(3, 100);
+    y.propose(0, 9, 50, 3, 0);
+    y.meet(0);
+    lose(y, 0, 1);
+    check.due("22: the user 9", 9, y.mostOwed());
+  }
+
   private static void promise22OverAllProposals() {
     BeamOffice x = new BeamOffice();
     x.addBeamline(4, 100);
@@ -221,39 +237,24 @@ public final class CalendarTest {
     lose(y, 0, 1);
     check.due("22: then the one with more", 8, y.mostOwed());
     BeamOffice z = new BeamOffice();
-    z.addBeamline(5, 100);
-    z.addBeamline(3, 100);
-    z.propose(0, 1, 50, 3, 0);
-    z.propose(0, 2, 40, 2, 0);
-    z.propose(1, 1, 30, 3, 0);
-    z.propose(1, 0, 20, 3, 0);
+    z.addBeamline(4, 100);
+    z.addBeamline(4, 100);
+    z.propose(0, 6, 50, 4, 0);
+    z.propose(1, 6, 50, 2, 0);
+    z.propose(1, 2, 40, 2, 0);
     z.meet(0);
     z.meet(1);
-    lose(z, 0, 2);
+    z.fail(0);
+    z.fail(1);
+    z.pass(1);
+    check.due("22: one each", 2, z.mostOwed());
+    z.fail(1);
+    z.pass(1);
     check.due("22: two of the user 2", 2, z.mostOwed());
     z.fail(0);
+    z.fail(1);
     z.pass(1);
-    check.due("22: one of the user 1", 2, z.mostOwed());
-    check.due("22: the other beamline has run", 'q', z.reason(1));
-    BeamOffice w = new BeamOffice();
-    w.addBeamline(4, 100);
-    w.addBeamline(4, 100);
-    w.propose(0, 6, 50, 4, 0);
-    w.propose(1, 6, 50, 2, 0);
-    w.propose(1, 2, 40, 2, 0);
-    w.meet(0);
-    w.meet(1);
-    w.fail(0);
-    w.fail(1);
-    w.pass(1);
-    check.due("22: one each", 2, w.mostOwed());
-    w.fail(1);
-    w.pass(1);
-    check.due("22: two of the user 2", 2, w.mostOwed());
-    w.fail(0);
-    w.fail(1);
-    w.pass(1);
-    check.due("22: a proposal each at both beamlines", 6, w.mostOwed());
+    check.due("22: a proposal each at both beamlines", 6, z.mostOwed());
   }
 
   private static void promise23DoneShare() {

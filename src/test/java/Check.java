@@ -31,8 +31,15 @@ final class Check {
     try {
       return call.answer();
     } catch (RuntimeException thrown) {
-      return "throws " + thrown.getClass().getName();
+      return "throws " + thrown.getClass().getName() + thrower(thrown);
     }
+  }
+
+  /** The class has to throw by itself: what a list throws for a wrong index is not its own. */
+  private static String thrower(RuntimeException thrown) {
+    StackTraceElement[] trace = thrown.getStackTrace();
+    String where = trace.length == 0 ? "nowhere" : trace[0].getClassName();
+    return where.equals("BeamOffice") ? "" : " in " + where;
   }
 
   /** Ends the test's program: a test that checked nothing has failed, too. */

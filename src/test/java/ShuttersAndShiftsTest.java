@@ -16,6 +16,7 @@ public final class ShuttersAndShiftsTest {
     promise13ReasonOrder();
     promise13Samples();
     promise13Disk();
+    promise13Users();
     promise13WrongInputs();
     promise14Fail();
     promise14WrongInputs();
@@ -149,6 +150,28 @@ public final class ShuttersAndShiftsTest {
     }
     check.due("13: the whole disk", 1, y.pass(1));
     check.due("13: no data needs no room", '-', y.reason(0));
+  }
+
+  private static void promise13Users() {
+    for (int user = 0; user < 10; user++) {
+      BeamOffice x = new BeamOffice();
+      x.addBeamline(9, 10);
+      x.propose(0, user, 50, 5, 0);
+      x.meet(0);
+      x.bring(0, 5);
+      x.put(0, 'b');
+      for (int other = 0; other < 10; other++) {
+        if (other != user) {
+          x.train(other);
+          x.setThere(other, true);
+        }
+      }
+      check.due("13: only others are trained, not " + user, 't', x.reason(0));
+      x.train(user);
+      check.due("13: only others are there, not " + user, 'p', x.reason(0));
+      x.setThere(user, true);
+      check.due("13: open for " + user, '-', x.reason(0));
+    }
   }
 
   private static void promise13WrongInputs() {
