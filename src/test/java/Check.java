@@ -6,6 +6,7 @@ final class Check {
   }
 
   private final String test;
+  private String about = "";
   private int right = 0;
   private int wrong = 0;
 
@@ -13,12 +14,17 @@ final class Check {
     this.test = test;
   }
 
+  /** What the checks from here on are about: it stands ahead of each answer that is told. */
+  void about(String title) {
+    about = title + ": ";
+  }
+
   void due(String what, Object want, Object got) {
     if (want == null ? got == null : want.equals(got)) {
       right++;
     } else {
       wrong++;
-      System.out.println(test + ": " + what + ": answered " + got + ", due is " + want);
+      System.out.println(test + ": " + about + what + ": answered " + got + ", due is " + want);
     }
   }
 
