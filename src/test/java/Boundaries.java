@@ -2,6 +2,12 @@ import java.util.NoSuchElementException;
 
 /** What the tests of the document's boundaries share. */
 abstract class Boundaries {
+  static final String NO_BEAMLINE =
+      "Throws `IndexOutOfBoundsException` if there is no such beamline";
+  static final String NO_PROPOSAL =
+      "Throws `IndexOutOfBoundsException` if there is no such proposal";
+  static final String NO_USER = "Throws `IndexOutOfBoundsException` if there is no such user";
+
   static final Class<?> RANGE = IllegalArgumentException.class;
   static final Class<?> STATE = IllegalStateException.class;
   static final Class<?> INDEX = IndexOutOfBoundsException.class;
@@ -27,12 +33,18 @@ abstract class Boundaries {
     this.document = document;
   }
 
+  /** What is checked from here on is what this sentence of the document says. */
   void says(String section, String sentence) {
     document.says(section, sentence);
   }
 
-  void saysInShort(String section, String sentence) {
-    document.saysInShort(section, sentence);
+  void says(int promise, String sentence) {
+    document.says("Promise " + promise, sentence);
+  }
+
+  /** The same of a promise's first line, which tells in short what its call does. */
+  void saysInShort(int promise, String sentence) {
+    document.saysInShort("Promise " + promise, sentence);
   }
 
   void due(String what, Object want, Object got) {
@@ -45,8 +57,7 @@ abstract class Boundaries {
     for (int way = 0; way < Probe.WAYS; way++) {
       BeamOffice touched = scene.office();
       check.dueThrow(where, want, () -> act.on(touched));
-      check.due(where + " changes nothing", "",
-          Probe.difference(way, scene.office(), touched));
+      check.due(where + " changes nothing", "", Probe.difference(way, scene, touched));
     }
   }
 

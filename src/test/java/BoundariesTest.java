@@ -7,7 +7,11 @@ public final class BoundariesTest {
     Check check = new Check("BoundariesTest");
     Document document = new Document(check);
     new TermBoundaries(check, document).run();
-    new PromiseBoundaries(check, document).run();
+    new ShiftTermBoundaries(check, document).run();
+    new BeamlineBoundaries(check, document).run();
+    new PeopleBoundaries(check, document).run();
+    new ShutterBoundaries(check, document).run();
+    new CalendarBoundaries(check, document).run();
     document.dueAllQuoted();
     check.end();
   }

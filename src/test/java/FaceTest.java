@@ -1,13 +1,18 @@
+import java.io.IOException;
 import java.lang.reflect.Constructor;
 import java.lang.reflect.Field;
 import java.lang.reflect.Method;
 import java.lang.reflect.Modifier;
+import java.nio.file.Files;
+import java.nio.file.Path;
 import java.util.ArrayList;
 import java.util.Arrays;
 import java.util.Collections;
 import java.util.HashSet;
 import java.util.List;
 import java.util.Set;
+import java.util.regex.Matcher;
+import java.util.regex.Pattern;
 
 /** The face of the document, no more and no less, and the shape of the classes inside. */
 public final class FaceTest {
@@ -41,9 +46,10 @@ public final class FaceTest {
     "public double meanScore() throws ArithmeticException",
   };
 
-  public static void main(String[] args) {
+  public static void main(String[] args) throws IOException {
     theClass();
     theMethods();
+    theSections();
     theFields();
     theClassesInside();
     check.end();
@@ -83,6 +89,25 @@ public final class FaceTest {
   private static String plain(Method method) {
     return method.toString().replace("BeamOffice.", "").replace("java.lang.", "")
         .replace("java.util.", "");
+  }
+
+  /** Each call stands under the title that the document puts ahead of it. */
+  private static void theSections() throws IOException {
+    String source = Files.readString(Path.of("src/main/java/BeamOffice.java"));
+    String document = Files.readString(Path.of("../shared/DOC.md"));
+    Matcher section = Pattern.compile("Ahead of the calls (.*) the interface says: (---- .*)\\.")
+        .matcher(document);
+    int sections = 0;
+    while (section.find()) {
+      String[] parts = source.split("// " + section.group(2) + "\n", 2);
+      String under = parts.length == 2 ? parts[1].split("// ----|  private ", 2)[0] : "";
+      for (String call : section.group(1).replace("`", "").split(", ")) {
+        check.due(call + " stands under " + section.group(2), true,
+            under.contains(" " + call + "("));
+      }
+      sections++;
+    }
+    check.due("the titles", 4, sections);
   }
 
   private static void theFields() {

@@ -7,35 +7,40 @@ import java.util.List;
  * it is promised for 512 calls only.
  */
 final class Probe {
-  static final int WAYS = 2;
+  static final int WAYS = 3;
 
   private static final char[] KINDS = {'d', 'm', 'l', 'o'};
 
+  private final Scene scene;
   private final BeamOffice office;
   private final List<String> trace = new ArrayList<>();
 
-  private Probe(BeamOffice office) {
+  private Probe(Scene scene, BeamOffice office) {
+    this.scene = scene;
     this.office = office;
   }
 
-  /** The first answer in which the two differ, or nothing. */
-  static String difference(int way, BeamOffice one, BeamOffice other) {
-    List<String> ones = trace(way, one);
-    List<String> others = trace(way, other);
-    for (int i = 0; i < ones.size(); i++) {
-      if (!ones.get(i).equals(others.get(i))) {
-        return ones.get(i) + " became " + others.get(i);
+  /** The first answer in which the touched office differs from the scene's own, or nothing. */
+  static String difference(int way, Scene scene, BeamOffice touched) {
+    List<String> want = trace(way, scene, scene.office());
+    List<String> got = trace(way, scene, touched);
+    for (int i = 0; i < want.size(); i++) {
+      if (!want.get(i).equals(got.get(i))) {
+        return want.get(i) + " became " + got.get(i);
       }
     }
     return "";
   }
 
-  private static List<String> trace(int way, BeamOffice office) {
-    Probe probe = new Probe(office);
-    probe.lookAtAll();
+  private static List<String> trace(int way, Scene scene, BeamOffice office) {
+    Probe probe = new Probe(scene, office);
     if (way == 0) {
+      probe.askWhatIsThere();
+    } else if (way == 1) {
+      probe.lookAtAll();
       probe.letShiftsPass();
     } else {
+      probe.lookAtAll();
       probe.changeAll();
     }
     return probe.trace;
@@ -43,6 +48,38 @@ final class Probe {
 
   private void tell(String call, Check.Call answer) {
     trace.add(call + " = " + Check.outcome(answer));
+  }
+
+  /**
+   * What a refused call does wrong may be hidden by a probe that is refused, too, and does it to
+   * both offices: so this one asks first what is answered.
+   */
+  private void askWhatIsThere() {
+    tell("time", office::time);
+    for (int user = 0; user <= 9; user++) {
+      int one = user;
+      tell("setThere " + one, () -> office.setThere(one, true));
+    }
+    for (int i = 0; i < scene.lines; i++) {
+      int line = i;
+      tell("setRate " + line, () -> office.setRate(line, 1));
+      tell("reason " + line, () -> office.reason(line));
+      tell("used " + line, () -> office.used(line));
+    }
+    for (int i = 0; i < scene.works; i++) {
+      int work = i;
+      tell("left " + work, () -> office.left(work));
+      tell("leftAnew " + work, () -> office.leftAnew(work));
+      for (char kind : KINDS) {
+        tell("count " + work + " " + kind, () -> office.count(work, kind));
+      }
+    }
+    for (int i = 0; i < scene.works; i++) {
+      int work = i;
+      tell("put " + work + " b", () -> office.put(work, 'b'));
+    }
+    tell("pass 10", () -> office.pass(10));
+    lookAtAll();
   }
 
   /** One more beamline and proposal than there can be: that they are missing is seen, too. */

@@ -1,7 +1,7 @@
 /** Offices to test with: each call of office() makes a new one, that is the same as the last. */
 enum Scene {
   /** Nothing is written yet. */
-  NEW {
+  NEW(0, 0) {
     @Override
     BeamOffice office() {
       return new BeamOffice();
@@ -9,7 +9,7 @@ enum Scene {
   },
 
   /** One beamline, two proposals, no panel. */
-  WRITTEN {
+  WRITTEN(1, 2) {
     @Override
     BeamOffice office() {
       BeamOffice x = new BeamOffice();
@@ -29,7 +29,7 @@ enum Scene {
    * Two beamlines and five proposals, a panel that has met and one that has not, shifts that were
    * done, missed, lost and made good, samples everywhere, one of them spoilt, data, and a fault.
    */
-  BUSY {
+  BUSY(2, 5) {
     @Override
     BeamOffice office() {
       BeamOffice x = new BeamOffice();
@@ -63,7 +63,7 @@ enum Scene {
   },
 
   /** All that there is room for: 2 beamlines, 8 proposals, 3 samples in the cold; 190 shifts. */
-  FULL {
+  FULL(2, 8) {
     @Override
     BeamOffice office() {
       BeamOffice x = new BeamOffice();
@@ -90,6 +90,14 @@ enum Scene {
       return x;
     }
   };
+
+  final int lines;
+  final int works;
+
+  Scene(int lines, int works) {
+    this.lines = lines;
+    this.works = works;
+  }
 
   abstract BeamOffice office();
 
