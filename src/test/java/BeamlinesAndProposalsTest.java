@@ -122,13 +122,20 @@ public final class BeamlinesAndProposalsTest {
     x.addBeamline(40, 999);
     x.meet(0);
     check.dueThrow("4: the panel has met", STATE, () -> x.propose(0, 0, 0, 1, 0));
-    check.dueThrow("4: the range comes before", RANGE, () -> x.propose(0, 0, 0, 0, 0));
+    check.dueThrow("4: the beamline comes before", INDEX, () -> x.propose(2, 0, 0, 1, 0));
+    check.dueThrow("4: the user comes before", RANGE, () -> x.propose(0, 10, 0, 1, 0));
+    check.dueThrow("4: the score comes before", RANGE, () -> x.propose(0, 0, 101, 1, 0));
+    check.dueThrow("4: the wanted shifts come before", RANGE, () -> x.propose(0, 0, 0, 0, 0));
+    check.dueThrow("4: the data comes before", RANGE, () -> x.propose(0, 0, 0, 1, 100));
     check.due("4: the other panel has not", 0, x.propose(1, 0, 0, 1, 0));
     for (int i = 1; i < 8; i++) {
       check.due("4: up to 8", i, x.propose(1, 0, 0, 1, 0));
     }
     check.dueThrow("4: a ninth", STATE, () -> x.propose(1, 0, 0, 1, 0));
-    check.dueThrow("4: the range comes before the ninth", RANGE, () -> x.propose(1, 0, 0, 1, 100));
+    check.dueThrow("4: the user before the ninth", RANGE, () -> x.propose(1, -1, 0, 1, 0));
+    check.dueThrow("4: the score before the ninth", RANGE, () -> x.propose(1, 0, -1, 1, 0));
+    check.dueThrow("4: the wanted shifts before the ninth", RANGE, () -> x.propose(1, 0, 0, 10, 0));
+    check.dueThrow("4: the data before the ninth", RANGE, () -> x.propose(1, 0, 0, 1, 100));
     check.dueThrow("4: the beamline before all", INDEX, () -> x.propose(2, 0, 0, 1, 100));
     check.dueThrow("4: no ninth was made", INDEX, () -> x.left(8));
     check.due("4: 8 in the queue", 8, x.meet(1));
